@@ -452,7 +452,7 @@ public final class LeastPaths {
             // The node is part of the rank: of the same keys the least node comes first.
             rankOf[n] = (long) key * MAX_NODES + n;
             int at = placeOf[n];
-            while (at > 0) {
+            for (int turn = 0; turn < size && at > 0; turn++) {
                 int up = (at - 1) / children;
                 if (rankOf[nodeAt[up]] < rankOf[n]) {
                     break;

@@ -147,6 +147,10 @@ public final class LeastPathsPromises {
         due(5, "trust below", x.trust(0, 1, 1), 9);
         due(5, "share(0, 9, 9)", x.share(0, 9, 9), 1);
         due(5, "trust below of 9 of 9", x.trust(0, 1, 1), 1);
+        due(5, "share(0, 0, 1)", x.share(0, 0, 1), 1);
+        due(5, "trust above of 0 of 1", x.trust(0, 1, 0), 0);
+        due(5, "share(0, 1, 1)", x.share(0, 1, 1), 1);
+        due(5, "trust above of 1 of 1", x.trust(0, 1, 0), 1);
         x.drop(0);
         due(5, "share(0, 1, 1) of a dropped one", x.share(0, 1, 1), -1);
     }
@@ -378,6 +382,10 @@ public final class LeastPathsPromises {
         due(17, "led(0, 3) astray", x.led(0, 3), 4);
         due(18, "ledTo(0, 3) astray, a settled one keeps its number", x.ledTo(0, 3), 10);
         due(18, "bothTo(0, 3) takes no rests", x.bothTo(0, 3), 7);
+        x.source(0, true);
+        due(10, "distance(3) takes no rests", x.distance(3), 7);
+        due(21, "kth(0, 3, 0) takes no rests", x.kth(0, 3, 0), 7);
+        due(27, "missed(0, 3) takes no rests", x.missed(0, 3), 3);
         x.rest(1, 1000000);
         due(17, "led(0, 3) far astray", x.led(0, 3), 3);
         due(18, "ledTo(0, 3) far astray", x.ledTo(0, 3), 10);
@@ -426,6 +434,12 @@ public final class LeastPathsPromises {
         // 0 by a (1: 9, 2: 2), 3 by b (1: 1, 2: 1; BEST 3), 2 and 1 are not below 3.
         due(19, "both(0, 3), ends at once", y.both(0, 3), 2);
         due(20, "bothTo(0, 3)", y.bothTo(0, 3), 3);
+        // Rests change nothing, on neither side.
+        for (int n = 0; n < 5; n++) {
+            x.rest(n, n == 2 || n == 4 ? 1000000 : 0);
+        }
+        due(19, "both(0, 3) with rests", x.both(0, 3), 4);
+        due(20, "bothTo(0, 3) with rests", x.bothTo(0, 3), 9);
         LeastPaths z = graph(2, 0, 1, 0);
         // 0 and 0 are below none: 0 by a gives 1 a 0, BEST is 0.
         due(19, "both(0, 1) with no weight", z.both(0, 1), 1);
@@ -485,6 +499,12 @@ public final class LeastPathsPromises {
         due(22, "kthArc(3, 0, 0, 0)", x.kthArc(3, 0, 0, 0), 5);
         due(22, "kthArc(3, 0, 0, 2)", x.kthArc(3, 0, 0, 2), 1);
         due(21, "kth(3, 0, 1)", x.kth(3, 0, 1), -3);
+        // A way that leaves 1, 2, 3 at 2 must not go by 1 again.
+        LeastPaths y = graph(4, 1, 2, 1, 2, 3, 1, 2, 1, 1, 1, 3, 9);
+        due(21, "kth(1, 3, 0)", y.kth(1, 3, 0), 2);
+        due(21, "kth(1, 3, 1)", y.kth(1, 3, 1), 9);
+        due(22, "kthArc(1, 3, 1, 0)", y.kthArc(1, 3, 1, 0), 3);
+        due(21, "kth(1, 3, 2)", y.kth(1, 3, 2), -3);
     }
 
     private static void longRow() {
