@@ -276,7 +276,10 @@ public final class LeastPaths {
         return widths.width[b] == ABSENT ? NONE : widths.width[b];
     }
 
-    /** The greatest trust of a way from a to b in lowest terms, part 0 above, 1 below; or -1 (also for the same), -2, -3. */
+    /**
+     * The greatest trust of a way from a to b in lowest terms, part 0 above, 1 below; or -1 (also for
+     * the same), -2, -3.
+     */
     public int trust(int a, int b, int part) {
         if (!isPair(a, b)) {
             return NO_SUCH;

@@ -28,7 +28,8 @@ public final class LeastPathsFace {
             "---- one after the other|public int kth(", "---- others|public int widest(");
 
     private static final Pattern FORBIDDEN = Pattern.compile(
-            "\\b(throw|throws|try|catch|synchronized|assert|import|package|protected|double|float)\\b|->|::|\\w+Exact\\b");
+            "\\b(throw|throws|try|catch|synchronized|assert|import|package|protected|double|float)\\b"
+                    + "|->|::|\\w+Exact\\b");
 
     private static int wrong = 0;
 
