@@ -426,6 +426,7 @@ public final class LeastPathsEdges {
         doc.due("arc(3, 4, 8)", x.arc(3, 4, 8), 0);
         doc.due("trust(3, 4, 1)", x.trust(3, 4, 1), 1);
         doc.due("widest(3, 4)", x.widest(3, 4), 8);
+        doc.due("drop(0), the only one", x.drop(0), 0);
     }
 
     static void promise10Refusals() {
@@ -749,6 +750,21 @@ public final class LeastPathsEdges {
                 doc.due("kth(0, 1, " + k + ") of " + ways, x.kth(0, 1, k), k < ways ? k : -3);
             }
             doc.due("kth(0, 1, 30) of " + ways, x.kth(0, 1, 30), -2);
+        }
+    }
+
+    static void promise21RowAfterRow() {
+        doc.about("Promise 21", "in THE ROW of a, b");
+        // A long row asked before leaves nothing in a short one.
+        LeastPaths x = doc.full(1);
+        for (int again = 0; again < 3; again++) {
+            doc.due("kth(0, 9, 29)", x.kth(0, 9, 29), 9);
+            doc.due("kth(9, 0, 0)", x.kth(9, 0, 0), -3);
+            doc.due("kth(0, 9, 29)", x.kth(0, 9, 29), 9);
+            doc.due("kth(8, 9, 3)", x.kth(8, 9, 3), 1);
+            doc.due("kth(8, 9, 4)", x.kth(8, 9, 4), -3);
+            doc.due("kth(8, 9, 29)", x.kth(8, 9, 29), -3);
+            doc.due("kth(5, 5, 1)", x.kth(5, 5, 1), -3);
         }
     }
 

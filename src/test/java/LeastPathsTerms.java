@@ -251,6 +251,11 @@ public final class LeastPathsTerms {
             doc.due("kth(" + n + ", " + n + ", 0)", x.kth(n, n, 0), 0);
             doc.due("kth(" + n + ", " + n + ", 1), in spite of rings", x.kth(n, n, 1), -3);
         }
+        // Behind 0 -> 1 -> 2 comes 0 -> 2, and not 0 -> 1 -> 0 -> 2.
+        LeastPaths y = doc.graph(3, 0, 1, 1, 1, 2, 1, 1, 0, 1, 0, 2, 9);
+        doc.due("kth(0, 2, 1)", y.kth(0, 2, 1), 9);
+        doc.due("kthArc(0, 2, 1, 0)", y.kthArc(0, 2, 1, 0), 3);
+        doc.due("kth(0, 2, 2)", y.kth(0, 2, 2), -3);
     }
 
     static void sourcesAreASet() {
@@ -286,6 +291,11 @@ public final class LeastPathsTerms {
         doc.due("source(2, false)", x.source(2, false), 1);
         doc.due("source(3, false)", x.source(3, false), 1);
         doc.due("distance(2), no source any more", x.distance(2), 6);
+        doc.due("rest(3, 1000000)", x.rest(3, 1000000), 0);
+        doc.due("arc(2, 0, 1)", x.arc(2, 0, 1), 3);
+        doc.due("source(0, false)", x.source(0, false), 1);
+        doc.due("arc(1, 2, 8)", x.arc(1, 2, 8), 4);
+        doc.due("distance(0), rests not counted", x.distance(0), 7);
     }
 
     static void fewestHops() {
@@ -493,15 +503,21 @@ public final class LeastPathsTerms {
     static void bothDirections() {
         doc.about("Terms", "two searches like that, without RESTS, one from a along ARCS, one from b against them");
         LeastPaths x = doc.graph(3, 0, 1, 4, 1, 2, 4);
-        for (int round = 0; round < 2; round++) {
-            // 0 by a, 2 by b: 1 has 4 and 4, which is 8.
-            doc.due("both(0, 2)", x.both(0, 2), 2);
-            doc.due("bothTo(0, 2)", x.bothTo(0, 2), 8);
-            doc.due("both(2, 0)", x.both(2, 0), 1);
-            doc.due("bothTo(2, 0)", x.bothTo(2, 0), -3);
-            for (int n = 0; n < 3; n++) {
-                doc.due("rest", x.rest(n, 1000000 - n), round == 0 ? 0 : 1000000 - n);
-            }
+        // 0 by a, 2 by b: 1 has 4 and 4, which is 8.
+        doc.due("both(0, 2)", x.both(0, 2), 2);
+        doc.due("bothTo(0, 2)", x.bothTo(0, 2), 8);
+        doc.due("both(2, 0)", x.both(2, 0), 1);
+        doc.due("bothTo(2, 0)", x.bothTo(2, 0), -3);
+        // Either side has two nodes with the same number; by its rest the least of them would be the later one.
+        LeastPaths y = doc.graph(5, 0, 1, 1, 0, 2, 1, 3, 4, 10, 1, 3, 0);
+        LeastPaths z = doc.graph(5, 1, 0, 1, 2, 0, 1, 4, 3, 10, 3, 1, 0);
+        for (int rest : new int[] {0, 1, 1000000}) {
+            y.rest(1, rest);
+            z.rest(1, rest);
+            doc.due("both(0, 4) with rest " + rest, y.both(0, 4), 3);
+            doc.due("bothTo(0, 4) with rest " + rest, y.bothTo(0, 4), 11);
+            doc.due("both(4, 0) with rest " + rest, z.both(4, 0), 3);
+            doc.due("bothTo(4, 0) with rest " + rest, z.bothTo(4, 0), 11);
         }
     }
 
@@ -634,6 +650,25 @@ public final class LeastPathsTerms {
             doc.due("kthArc(0, 3, " + k + ") behind the last", x.kthArc(0, 3, k, ways[k].length), -1);
         }
         doc.due("kth(0, 3, 4)", x.kth(0, 3, 4), -3);
+    }
+
+    static void rowByNumbers() {
+        doc.about("Terms", "of these that with the least number where they first differ.");
+        // Two arcs from 0 to 1, three from 1 to 2: the second arc changes first, whatever was found first.
+        LeastPaths x = doc.graph(3, 1, 2, 1, 0, 1, 1, 1, 2, 1, 0, 1, 1, 1, 2, 1);
+        int[][] ways = {{1, 0}, {1, 2}, {1, 4}, {3, 0}, {3, 2}, {3, 4}};
+        for (int k = 0; k < 6; k++) {
+            doc.due("kthArc(0, 2, " + k + ", 0)", x.kthArc(0, 2, k, 0), ways[k][0]);
+            doc.due("kthArc(0, 2, " + k + ", 1)", x.kthArc(0, 2, k, 1), ways[k][1]);
+        }
+        doc.due("kth(0, 2, 6)", x.kth(0, 2, 6), -3);
+        // The full graph: way 29 of 640000 is, from the last step on, 29 = 1 + 3 * 4 + 1 * 16.
+        LeastPaths y = doc.full(1);
+        int[] last = {0, 1, 2, 3, 4, 5, 15, 34, 17};
+        for (int i = 0; i < 9; i++) {
+            doc.due("kthArc(0, 9, 0, " + i + ")", y.kthArc(0, 9, 0, i), i);
+            doc.due("kthArc(0, 9, 29, " + i + ")", y.kthArc(0, 9, 29, i), last[i]);
+        }
     }
 
     static void widths() {
