@@ -762,9 +762,11 @@ public final class LeastPathsEdges {
             doc.due("kth(9, 0, 0)", x.kth(9, 0, 0), -3);
             doc.due("kth(0, 9, 29)", x.kth(0, 9, 29), 9);
             doc.due("kth(8, 9, 3)", x.kth(8, 9, 3), 1);
-            doc.due("kth(8, 9, 4)", x.kth(8, 9, 4), -3);
-            doc.due("kth(8, 9, 29)", x.kth(8, 9, 29), -3);
             doc.due("kth(5, 5, 1)", x.kth(5, 5, 1), -3);
+        }
+        for (int k = 4; k < 30; k++) {
+            doc.due("kth(0, 9, 29)", x.kth(0, 9, 29), 9);
+            doc.due("kth(8, 9, " + k + "), which has four", x.kth(8, 9, k), -3);
         }
     }
 

@@ -482,6 +482,9 @@ public final class LeastPathsTerms {
         doc.due("rest(3, 0)", x.rest(3, 0), 0);
         doc.due("led(0, 3)", x.led(0, 3), 4);
         doc.due("ledTo(0, 3)", x.ledTo(0, 3), 10);
+        doc.due("source(0, true)", x.source(0, true), 0);
+        doc.due("distance(3), not led, though a led search was before", x.distance(3), 7);
+        doc.due("kth(0, 3, 0), not led", x.kth(0, 3, 0), 7);
         doc.due("rest(1, 0)", x.rest(1, 0), 8);
         doc.due("ledTo(0, 3) without rests", x.ledTo(0, 3), 7);
     }
