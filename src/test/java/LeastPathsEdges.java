@@ -939,6 +939,24 @@ public final class LeastPathsEdges {
         doc.due("trust(0, 9, 1), the most", x.trust(0, 9, 1), 1);
     }
 
+    static void promise24RingsOfFullTrust() {
+        doc.about("Promise 24", "in lowest terms");
+        // Arcs to and fro, all 9 of 9: going round adds nothing, and no term grows beyond its bounds by it.
+        LeastPaths x = doc.graph(10);
+        for (int e = 0; e < 36; e++) {
+            int n = e / 4;
+            x.arc(e % 2 == 0 ? n : n + 1, e % 2 == 0 ? n + 1 : n, 1);
+            x.share(e, 9, 9);
+        }
+        doc.due("trust(0, 9, 0), all of it", x.trust(0, 9, 0), 1);
+        doc.due("trust(0, 9, 1), all of it", x.trust(0, 9, 1), 1);
+        x.share(32, 8, 9);
+        x.share(34, 7, 9);
+        doc.due("trust(0, 9, 0), but for the last step", x.trust(0, 9, 0), 8);
+        doc.due("trust(0, 9, 1), but for the last step", x.trust(0, 9, 1), 9);
+        doc.due("trust(9, 0, 1), all of it back", x.trust(9, 0, 1), 1);
+    }
+
     static void promise25NoRing() {
         doc.about("Promise 25", "-3.");
         doc.due("ring() of the empty graph", doc.graph(0).ring(), -3);
