@@ -13,7 +13,8 @@ import java.util.regex.Pattern;
 
 /** The public face of the document, and those rules of the language that can be seen without reading. */
 public final class LeastPathsFace {
-    private static final String SOURCE = "src/main/java/LeastPaths.java";
+    private static final Path SOURCE = Path.of("src", "main", "java", "LeastPaths.java");
+    private static final Path DOCUMENT = Path.of("..", "shared", "DOC.md");
 
     private static final List<String> FACE = List.of(
             "heap()", "node()", "arc(int,int,int)", "share(int,int,int)", "drop(int)", "source(int,boolean)",
@@ -56,7 +57,8 @@ public final class LeastPathsFace {
             insideMethods(inside);
         }
         check(face.getDeclaredClasses().length < 12, "at most some twelve classes");
-        source(Files.readString(Path.of(SOURCE)));
+        source(Files.readString(SOURCE));
+        document(Files.readString(SOURCE));
         System.out.println(wrong == 0 ? "the face is as due" : wrong + " things do not hold");
         if (wrong != 0) {
             System.exit(1);
@@ -110,5 +112,25 @@ public final class LeastPathsFace {
             boolean isAhead = ahead >= 0 && ahead < call && !text.substring(ahead, call).contains("public int ");
             check(isAhead, "ahead of '" + parts[1] + "' stands: " + parts[0]);
         }
+    }
+
+    /** The signatures of 'The public face' stand in the source as they do there, no more and no less. */
+    private static void document(String text) throws IOException {
+        if (!Files.exists(DOCUMENT)) {
+            System.out.println("there is no " + DOCUMENT + ": its face is not compared with the source");
+            return;
+        }
+        String face = Files.readString(DOCUMENT);
+        face = face.substring(face.indexOf("```java"), face.indexOf("```\n", face.indexOf("```java") + 1));
+        check(signatures(face, ";").size() == FACE.size() + 1, "the document has all calls and a constructor");
+        check(signatures(face, ";").equals(signatures(text, " {")),
+                "the face is " + signatures(face, ";") + ", the source has " + signatures(text, " {"));
+    }
+
+    /** What is public inside the class, in its order. */
+    private static List<String> signatures(String text, String end) {
+        return text.lines().map(String::strip)
+                .filter(line -> line.startsWith("public ") && line.endsWith(")" + end))
+                .map(line -> line.substring(0, line.length() - end.length())).toList();
     }
 }

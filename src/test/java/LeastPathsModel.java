@@ -37,23 +37,39 @@ public final class LeastPathsModel {
         }
     }
 
-    /** Plays runs on graphs with up to so many nodes and so many arcs, their weights below a bound. */
+    /**
+     * Plays runs on graphs with up to so many nodes and so many arcs, their weights below a bound. Now and
+     * then the graph is cleared and another one built on the same object, and now and then the question
+     * before is asked again, with or without a change in between.
+     */
     private static void play(int firstSeed, int runs, int nodes, int arcs, int bound) {
         for (int seed = firstSeed; seed < firstSeed + runs; seed++) {
             Random random = new Random(seed);
             Run run = new Run(seed);
-            int made = nodes - random.nextInt(3);
-            for (int n = 0; n < made; n++) {
-                run.call(new Call("node", new int[4]));
-            }
-            for (int e = 0; e < arcs; e++) {
-                run.call(draw("arc", random, run.model, bound));
-            }
+            build(run, random, nodes, arcs, bound);
+            Call question = draw("reached", random, run.model, bound);
             while (run.calls < CALLS) {
-                String name = pick(random.nextInt(8) == 0 ? CHANGES : QUESTIONS, random);
-                // A clear is seldom, so that graphs grow.
-                run.call(draw(random.nextInt(600) == 0 ? "clear" : name, random, run.model, bound));
+                int way = random.nextInt(200);
+                if (way == 0) {
+                    run.call(draw("clear", random, run.model, bound));
+                    build(run, random, nodes, arcs, bound);
+                } else if (way < 25) {
+                    run.call(draw(pick(CHANGES, random), random, run.model, bound));
+                } else {
+                    question = way < 60 ? question : draw(pick(QUESTIONS, random), random, run.model, bound);
+                    run.call(question);
+                }
             }
+        }
+    }
+
+    private static void build(Run run, Random random, int nodes, int arcs, int bound) {
+        int made = nodes - random.nextInt(3);
+        for (int n = 0; n < made && run.calls < CALLS; n++) {
+            run.call(new Call("node", new int[4]));
+        }
+        for (int e = 0; e < arcs && run.calls < CALLS; e++) {
+            run.call(draw("arc", random, run.model, bound));
         }
     }
 
