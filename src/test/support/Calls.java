@@ -1,6 +1,8 @@
 import java.lang.reflect.InvocationTargetException;
 import java.lang.reflect.Method;
 import java.util.Arrays;
+import java.util.HashMap;
+import java.util.Map;
 import java.util.regex.Matcher;
 import java.util.regex.Pattern;
 
@@ -8,10 +10,24 @@ import java.util.regex.Pattern;
 final class Calls {
     private static final Pattern CALL = Pattern.compile("(\\w+)\\((.*)\\)");
 
+    /** Those that were read already: the same ones come again and again. */
+    private static final Map<String, Call> READ = new HashMap<>();
+
     private Calls() { }
+
+    private record Call(Method method, Object[] with) { }
 
     /** Makes the call and answers what it answered; a text that is no call of the class is a fault of the test. */
     static int answer(LeastPaths x, String text) {
+        Call call = READ.computeIfAbsent(text, Calls::read);
+        try {
+            return (int) call.method.invoke(x, call.with);
+        } catch (IllegalAccessException | InvocationTargetException e) {
+            throw new IllegalStateException(text + " has thrown", e);
+        }
+    }
+
+    private static Call read(String text) {
         Matcher call = CALL.matcher(text.strip());
         if (!call.matches()) {
             throw new IllegalArgumentException("this is no call: " + text);
@@ -22,11 +38,7 @@ final class Calls {
         for (int i = 0; i < told.length; i++) {
             with[i] = valueOf(told[i].strip(), method.getParameterTypes()[i]);
         }
-        try {
-            return (int) method.invoke(x, with);
-        } catch (IllegalAccessException | InvocationTargetException e) {
-            throw new IllegalStateException(text + " has thrown", e);
-        }
+        return new Call(method, with);
     }
 
     private static Method methodOf(String name, int parameters) {
